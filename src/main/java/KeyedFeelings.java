@@ -108,15 +108,7 @@ public final class KeyedFeelings {
     // ---- what is done
 
     public int hours(int n) {
-        int refusal = refusalOfHours(n);
-        if (refusal != 0) {
-            return refusal;
-        }
-        for (int each = 0; each < n; each++) {
-            past.keep(now);
-            now.passHour();
-        }
-        return now.stopped();
+        return spend(n, false);
     }
 
     public int lend(int person, int n) {
@@ -158,16 +150,7 @@ public final class KeyedFeelings {
     }
 
     public int drift(int n) {
-        int refusal = refusalOfHours(n);
-        if (refusal != 0) {
-            return refusal;
-        }
-        for (int each = 0; each < n; each++) {
-            past.keep(now);
-            now.lendByDraw();
-            now.passHour();
-        }
-        return now.stopped();
+        return spend(n, true);
     }
 
     public int undo() {
@@ -187,11 +170,22 @@ public final class KeyedFeelings {
         return before;
     }
 
-    private int refusalOfHours(int n) {
+    /** A draw and what is lent by it are kept as one with their hour. */
+    private int spend(int n, boolean isDrift) {
         if (n < 1 || n > MOST_HOURS) {
             return BAD;
         }
-        return now.hour + n > LAST_HOUR ? FULL : 0;
+        if (now.hour + n > LAST_HOUR) {
+            return FULL;
+        }
+        for (int each = 0; each < n; each++) {
+            past.keep(now);
+            if (isDrift) {
+                now.lendByDraw();
+            }
+            now.passHour();
+        }
+        return now.stopped();
     }
 
     // ---- 2 foretold

@@ -145,7 +145,16 @@ public final class DoneTest {
         check.due("whatever was told since", whole.seed(3), draws[38]);
         KeyedFeelings nobody = new KeyedFeelings();
         nobody.drift(1);
-        check.due("draws without people", nobody.seed(0), draws[1]);
+        check.due("draws without people", nobody.seed((int) draws[1]), draws[1]);
+        nobody.drift(39);
+        check.due("draws without people", nobody.seed(0), draws[40]);
+        KeyedFeelings alone = Check.of("g0");
+        int left = 0;
+        for (int each = 1; each <= 40; each++) {
+            left = Math.max(0, (draws[each] / 65536 % 4 == 0 ? left + 3 : left) - 1);
+            alone.drift(1);
+            check.due("one alone is lent", alone.of(0, 1), left);
+        }
     }
 
     private static void undo() {

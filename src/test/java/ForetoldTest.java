@@ -61,6 +61,10 @@ public final class ForetoldTest {
         check.due("all, of 11 turns", y.all(), -4);
         check.due("ever, of 11 turns", y.ever(), 0);
         check.due("then(80)", y.then(80), 0);
+        y.hours(7);
+        check.due("ever, of one who stops behind 81", y.ever(), 0);
+        y.hours(1);
+        check.due("ever, of one who stops behind 80", y.ever(), 3);
     }
 
     private static void chain() {
@@ -71,6 +75,7 @@ public final class ForetoldTest {
             check.due("behind of " + person, x.chain(person, 0), behind[person]);
             check.due("heads of " + person, x.chain(person, 1), heads[person]);
         }
+        check.due("himself, if nobody winds him", Check.of("g1>1:1,g1").chain(0, 1), 1);
         KeyedFeelings ring = Check.of("g1>1:1,g1>2:1,g1>0:1");
         check.due("behind on a ring", ring.chain(1, 0), 7);
         check.due("no head of a ring", ring.chain(1, 1), 0);
@@ -90,6 +95,9 @@ public final class ForetoldTest {
         check.due("lends(5, 4, 0)", x.lends(5, 4, 0), 1);
         check.due("lends(1, 30, 1)", x.lends(1, 30, 1), 0);
         check.due("lends(40, 30, 1)", x.lends(40, 30, 1), 4);
+        KeyedFeelings six = Check.of("g1,g1,g1,g1,g1,g1");
+        check.due("all six stop", six.lends(40, 1, 0), 0);
+        check.due("all six stop", six.lends(40, 1, 1), 6);
         check.due("behind them, not between", Check.of("g1>1:8,g8").lends(8, 1, 1), 1);
         check.due("nothing is lent", x.count(3), 39);
         int[][] bad = {{0, 1, 0}, {41, 1, 0}, {1, 0, 0}, {1, 31, 0}, {1, 1, -1}, {1, 1, 2}};
@@ -111,6 +119,7 @@ public final class ForetoldTest {
         check.due("instead(0, 40, 1)", x.instead(0, 40, 1), 3);
         check.due("none first, of like ones", x.instead(2, 1, 0), -4);
         check.due("none first, of like ones", x.instead(2, 1, 1), 0);
+        check.due("the first one", Check.of("g1,g9").instead(1, 1, 0), 0);
         KeyedFeelings himself = Check.of("g1>1:1,g9,g9>0:1");
         check.due("not himself", himself.instead(0, 2, 0), -4);
         check.due("not himself", himself.instead(0, 2, 1), 1);
@@ -169,6 +178,13 @@ public final class ForetoldTest {
         check.due("again of stopped ones", Check.of("g0>1:1,c0>0:9").again(), 24);
         check.due("again of a couple", Check.of(COUPLE).again(), 24);
         check.due("never", Check.of("g9").again(), -4);
+        KeyedFeelings twice = Check.of("c28>4:11,g14,l0>3:7,t4>2:9,p26>1:3");
+        twice.hours(34);
+        check.due("behind two days", twice.again(), 48);
+        twice.then(7);
+        check.due("whatever was foretold ahead of it", twice.again(), 48);
+        twice.hours(48);
+        check.due("behind two days more", twice.again(), 48);
         KeyedFeelings later = Check.of("g30>1:12,g30>0:12");
         check.due("down from 30 at first", later.again(), -4);
         later.hours(8);

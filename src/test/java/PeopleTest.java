@@ -115,6 +115,7 @@ public final class PeopleTest {
         x.person(3, 13);
         x.hours(2);
         x.seed(5);
+        x.then(9);
         check.due("close of '" + text + "'", Check.close(x, text), due);
         check.due("hour behind '" + text + "'", x.count(1), due < 0 ? 2 : 0);
         check.due("known behind '" + text + "'", x.count(7), due < 0 ? 2 : 0);
@@ -197,6 +198,7 @@ public final class PeopleTest {
             check.due("winding in hour " + hour, x.count(6), hour % 8 == 0 ? 1 : 0);
             check.due("known", x.count(7), Math.min(8, hour));
         }
+        check.due("the first without", Check.of("g1>1:1,g1").count(5), 1);
         check.due("a ring of six", Check.of("g1>1:1,g1>2:1,g1>3:1,g1>4:1,g1>5:1,g1>0:1").count(4), 63);
         check.due("two rings", Check.of("g1>1:1,g1>0:1,g1>3:1,g1>4:1,g1>2:1,g1>2:1").count(4), 31);
     }

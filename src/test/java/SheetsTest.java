@@ -75,8 +75,6 @@ public final class SheetsTest {
             fill(x, 0, lane, 1, 1, 1, 1, 1, 1);
             check.due("film", x.film(2, 4, 0, lane, 1), 4);
             check.due("the film is heard", x.heard(2, 0, lane, 1, 4, 1), 1 << 9);
-            KeyedFeelings y = listener();
-            check.due("nothing on a sheet of another object", y.drop(0), -11);
             check.due("ahead of the film", x.heard(2, 0, lane, 0, 1, 1), 1 << 3);
             check.due("behind the film", x.heard(2, 0, lane, 5, 1, 1), 1 << 3);
         }
@@ -84,19 +82,15 @@ public final class SheetsTest {
         x.sheet(1, 1, 24);
         check.due("film of 24", x.film(0, 24, 1, 1, 0), 24);
         for (int hour = 1; hour <= 24; hour++) {
-            x.sheet(2, 1, 1);
-            x.copy(1, hour - 1, 2, 0, 1);
-            KeyedFeelings y = Check.of("g9,g20>0:3,c9");
-            y.hours(hour);
-            x.sheet(3, 1, 1);
-            check.due("film item " + hour, x.ahead(0, hour), y.of(0, 1));
+            int turns = x.ahead(0, hour);
+            int due = turns == 0 ? 3 : 1 << turns + 1;
+            check.due("film item " + hour, x.heard(1, 1, 1, hour - 1, 1, 1), due);
         }
         int[][] bad = {{-1, 1, 1, 1, 0}, {3, 1, 1, 1, 0}, {0, 0, 1, 1, 0}, {0, 25, 1, 1, 0}, {0, 1, -1, 1, 0},
             {0, 1, 4, 1, 0}, {0, 1, 1, -1, 0}, {0, 1, 1, 4, 0}};
         for (int[] a : bad) {
             check.due("film bad", x.film(a[0], a[1], a[2], a[3], a[4]), -1);
         }
-        x.drop(3);
         check.due("film, null", x.film(0, 1, 3, 0, -1), -11);
         check.due("film, cast", x.film(0, 1, 1, 0, -1), -12);
         int[][] index = {{24, 1}, {1, -1}, {1, 24}, {8, 17}, {24, Integer.MAX_VALUE}};
