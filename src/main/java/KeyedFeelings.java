@@ -247,7 +247,8 @@ public final class KeyedFeelings {
         for (int each = 0; each < now.size; each++) {
             trial.become(now);
             trial.addTurns(each, t);
-            int stopped = stoppedInTrialBehind(n);
+            trial.passHours(n);
+            int stopped = Integer.bitCount(trial.stopped());
             if (stopped < fewest) {
                 fewest = stopped;
                 best = each;
@@ -347,15 +348,11 @@ public final class KeyedFeelings {
         return n >= 1 && n <= ADVISED;
     }
 
-    private int stoppedInTrialBehind(int n) {
-        trial.passHours(n);
-        return Integer.bitCount(trial.stopped());
-    }
-
     private int stoppedIfTold(int person, int other, int n) {
         trial.become(now);
         trial.winds[person] = other;
-        return stoppedInTrialBehind(n);
+        trial.passHours(n);
+        return Integer.bitCount(trial.stopped());
     }
 
     /** Of ten to the power of how many wind, the ways in which just these forget. */
@@ -716,7 +713,7 @@ public final class KeyedFeelings {
         }
 
         private boolean windsOneOf(int person, int set) {
-            return has(winds[person]) && (set & 1 << winds[person]) != 0;
+            return winds[person] != NONE && (set & 1 << winds[person]) != 0;
         }
 
         private void lendByDraw() {
