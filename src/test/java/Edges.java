@@ -67,11 +67,8 @@ final class Edges {
     /** An empty close in an hour. */
     static KeyedFeelings atHour(int hour) {
         KeyedFeelings x = new KeyedFeelings();
-        while (x.count(1) + 48 <= hour) {
-            x.hours(48);
-        }
-        if (x.count(1) < hour) {
-            x.hours(hour - x.count(1));
+        for (int left = hour; left > 0; left -= 48) {
+            x.hours(Math.min(48, left));
         }
         return x;
     }

@@ -412,7 +412,7 @@ final class EdgesOfDone {
         KeyedFeelings x = kept();
         x.image();
         for (int round = 0; round < 3; round++) {
-            Check.close(x, "t1,t2,t3,t4,t5,t6");
+            Check.close(x, "t1,t2");
             x.seed(round);
             x.drift(3 + round);
             edges.due("restore()", x.restore(), 1);

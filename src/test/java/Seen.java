@@ -33,10 +33,14 @@ final class Seen {
         text.append(" draw ").append(draw);
     }
 
+    /** One time more than may be undone. */
     private void past() {
-        for (int left = x.undo(); left >= 0; left = x.undo()) {
+        for (int each = 0; each < 9; each++) {
+            int left = x.undo();
             text.append(" undone ").append(left);
-            moment();
+            if (left >= 0) {
+                moment();
+            }
         }
     }
 
@@ -55,10 +59,10 @@ final class Seen {
 
     /** An item is told by the turns in one by which he would run so: none, if it is not of 0 to 30. */
     private void items(int sheet, int lane) {
-        int heard = x.heard(0, sheet, lane, 0, 1, 1);
-        for (int i = 1; heard >= 0; i++) {
-            text.append(" item ").append(heard);
+        int heard = 0;
+        for (int i = 0; i <= 24 && heard >= 0; i++) {
             heard = x.heard(0, sheet, lane, i, 1, 1);
+            text.append(" item ").append(heard);
         }
     }
 }
